@@ -164,7 +164,7 @@ public final class ToWhoNeeds {
         if (!state.people.has(person)) {
             return refuse(NOBODY);
         }
-        return mind.cheapestTo(state.people, lawNow(), person);
+        return mind.cheapestTo(state.people, lawNow(), person, NONE);
     }
 
     public int who() {
@@ -938,8 +938,9 @@ public final class ToWhoNeeds {
         private final Numbers bestLine = new Numbers(MOST_TOLD);
         private int seed;
 
-        int cheapestTo(People people, Law law, int person) {
-            int cheapest = NONE;
+        /** CAN's LETTER for a PERSON; without one what else is told. */
+        int cheapestTo(People people, Law law, int person, int otherwise) {
+            int cheapest = otherwise;
             int least = DEAREST;
             for (int i = 0; i < TWO.length; i++) {
                 int cost = costOf(TWO[i]);
@@ -1191,21 +1192,16 @@ public final class ToWhoNeeds {
             int person = state.aims.get(writer);
             switch (state.kinds.get(writer)) {
                 case AIM:
-                    return aimed(state.people, law, person, told);
+                    return cheapestTo(state.people, law, person, told);
                 case ALL:
                     return meetingMost(state.people, law);
                 case TEST:
-                    return state.day % 2 == 1 ? aimed(state.people, law, person, told) : told;
+                    return state.day % 2 == 1 ? cheapestTo(state.people, law, person, told) : told;
                 case AHEAD:
                     return easing(state.people, law, person, told);
                 default:
                     return told;
             }
-        }
-
-        private int aimed(People people, Law law, int person, int told) {
-            int letter = cheapestTo(people, law, person);
-            return letter == NONE ? told : letter;
         }
 
         private int meetingMost(People people, Law law) {
@@ -1228,7 +1224,7 @@ public final class ToWhoNeeds {
 
         /** The cheapest LETTER behind which a PERSON can be reached for less; without one as AIM. */
         private int easing(People people, Law law, int person, int told) {
-            int now = cheapestTo(people, law, person);
+            int now = cheapestTo(people, law, person, NONE);
             int limit = now == NONE ? DEAREST : costOf(now);
             int easing = now == NONE ? told : now;
             int least = DEAREST;
@@ -1237,7 +1233,7 @@ public final class ToWhoNeeds {
                 if (cost < least) {
                     thought.takeFrom(people);
                     law.deliver(thought, TWO[i]);
-                    int then = cheapestTo(thought, law, person);
+                    int then = cheapestTo(thought, law, person, NONE);
                     if (then != NONE && costOf(then) < limit) {
                         least = cost;
                         easing = TWO[i];
@@ -1265,7 +1261,7 @@ public final class ToWhoNeeds {
         private int aimedBehind(State state, Law law, int writer, int letter) {
             thought.takeFrom(state.people);
             law.deliver(thought, letter);
-            return aimed(thought, law, state.aims.get(writer), state.letters.get(writer));
+            return cheapestTo(thought, law, state.aims.get(writer), state.letters.get(writer));
         }
 
         int needBehindDays(People people, Law law, int days, int z) {

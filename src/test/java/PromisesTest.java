@@ -23,6 +23,7 @@ public final class PromisesTest {
         before();
         order();
         best();
+        bestOfAll();
         greedy();
         forty();
         think();
@@ -523,6 +524,43 @@ public final class PromisesTest {
         due(w.best(Integer.MAX_VALUE), -9);
     }
 
+    /** BEST of five LETTERS against all 120 orders, each by met. */
+    private static void bestOfAll() {
+        promise = "20 best of 120";
+        for (int k = 0; k < 40; k++) {
+            ToWhoNeeds x = with("p3,2,0,4+0;p2,4,1,0+0;p0,4,2,3+0;");
+            x.law(k % 5);
+            for (int i = 0; i < 5; i++) {
+                x.order((k * 7 + i * 5) % 4 + 10 * ((k * 3 + i * i) % 4) + 1000 * ((k + i * 3) % 3));
+            }
+            int most = -1;
+            int first = 0;
+            for (int line = 1234; line <= 43210; line++) {
+                // The line reads from its first LETTER, met takes the lowest digit first.
+                int turned = 0;
+                for (int rest = line, i = 0; i < 5; i++, rest /= 10) {
+                    turned = turned * 10 + rest % 10;
+                }
+                if (isLine(line) && x.met(5, turned) > most) {
+                    most = x.met(5, turned);
+                    first = line;
+                }
+            }
+            due(x.best(-1), most);
+            for (int i = 4, rest = first; i >= 0; i--, rest /= 10) {
+                due(x.best(i), rest % 10);
+            }
+        }
+    }
+
+    private static boolean isLine(int line) {
+        int digits = 0;
+        for (int rest = line, i = 0; i < 5; i++, rest /= 10) {
+            digits |= 1 << rest % 10;
+        }
+        return digits == 31;
+    }
+
     private static void greedy() {
         promise = "21 greedy";
         ToWhoNeeds w = with("p3,0,0,0+0;p2,0,0,0+0;");
@@ -625,6 +663,12 @@ public final class PromisesTest {
         due(x.think(0, 0, 3), -2);
         due(x.think(0, 0, -1), -2);
         due(x.allNeed(), 23);
+        // Only the greatest fits: by SUM 30 are above 29.
+        ToWhoNeeds full = with("p29,0,0,0+0;p0,0,0,0+0;");
+        full.going(1, 1);
+        due(full.think(1, 0, 0), 30);
+        due(full.think(1, 0, 1), 30);
+        due(full.think(1, 0, 2), 1);
         // By SECOND a letter went to 0 because he has less than 9, or 9 at least lets 1 have it.
         ToWhoNeeds y = with("p5,0,0,0+0;p9,9,0,0+0;");
         y.law(3);
@@ -703,6 +747,12 @@ public final class PromisesTest {
         x.err(7);
         due(x.eye(0, 1, 0), 7);
         due(x.eye(0, 1, 1), 100);
+        x.err(2);
+        due(x.eye(0, 1, 0), 1);
+        due(x.eye(0, 1, 1), 50);
+        x.err(46);
+        due(x.eye(1, 1, 0), 27);
+        due(x.eye(1, 1, 1), 50);
         due(x.eye(3, 1, 0), -1);
         due(x.eye(0, 6, 0), -1);
         due(x.eye(-1, 0, 2), -1);
