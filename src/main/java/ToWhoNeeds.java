@@ -54,9 +54,9 @@ public final class ToWhoNeeds {
     private final Reader reader;
     private final Mind mind;
     private final Law[] kindsOfLaw;
+    private final Numbers row;
     private final int[] refused;
     private boolean isKept;
-    private int posted;
 
     public ToWhoNeeds() {
         state = new State();
@@ -64,6 +64,7 @@ public final class ToWhoNeeds {
         reader = new Reader();
         mind = new Mind();
         kindsOfLaw = new Law[] {new Sum(0), new Met(), new Most(), new Second(), new ReadOn()};
+        row = new Numbers(MOST_ROW);
         refused = new int[1 - ROOM];
     }
 
@@ -71,16 +72,16 @@ public final class ToWhoNeeds {
         if (c < 0) {
             return refuse(BELOW);
         }
-        if (c > 255 || state.text.isFull()) {
+        if (c > 255 || reader.text.isFull()) {
             return refuse(ROOM);
         }
-        state.text.add(c);
-        return state.text.size;
+        reader.text.add(c);
+        return reader.text.size;
     }
 
     public int parish() {
         int answer = reader.read(state);
-        state.text.clear();
+        reader.text.clear();
         return answer;
     }
 
@@ -146,7 +147,7 @@ public final class ToWhoNeeds {
         if (!isLetter(letter)) {
             return refuse(NOBODY);
         }
-        posted++;
+        state.posted++;
         return lawNow().deliver(state.people, letter);
     }
 
@@ -332,7 +333,7 @@ public final class ToWhoNeeds {
         for (int writer = 0; writer < state.kinds.size; writer++) {
             int letter = mind.written(state, lawNow(), writer);
             int first = lawNow().deliver(state.people, letter);
-            posted++;
+            state.posted++;
             if (first == state.aims.get(writer)) {
                 luck++;
             }
@@ -368,16 +369,16 @@ public final class ToWhoNeeds {
         if (v < 0) {
             return refuse(BELOW);
         }
-        if (v > 9 || state.row.isFull()) {
+        if (v > 9 || row.isFull()) {
             return refuse(ROOM);
         }
-        state.row.add(v);
-        return state.row.size;
+        row.add(v);
+        return row.size;
     }
 
     public int judge() {
-        int answer = mind.firstNotSo(state, lawNow());
-        state.row.clear();
+        int answer = mind.firstNotSo(state.people, lawNow(), state.told, row);
+        row.clear();
         return answer;
     }
 
@@ -408,11 +409,11 @@ public final class ToWhoNeeds {
             case 4:
                 return state.day;
             case 5:
-                return state.row.size;
+                return row.size;
             case 6:
-                return state.text.size;
+                return reader.text.size;
             case 7:
-                return posted;
+                return state.posted;
             default:
                 return what > 10 && what - 10 < refused.length ? refused[what - 10] : NONE;
         }
@@ -591,7 +592,7 @@ public final class ToWhoNeeds {
         }
     }
 
-    /** All that THE IMAGE holds. */
+    /** All that THE IMAGE holds: not the letters that came nor the ROW, of which nothing is told yet. */
     private static final class State {
         private final People people = new People();
         private final Numbers kinds = new Numbers(MOST_WRITERS);
@@ -600,11 +601,10 @@ public final class ToWhoNeeds {
         private final Numbers told = new Numbers(MOST_TOLD);
         private final Numbers wentLetter = new Numbers(MOST_GOINGS);
         private final Numbers wentTo = new Numbers(MOST_GOINGS);
-        private final Numbers row = new Numbers(MOST_ROW);
-        private final Numbers text = new Numbers(MOST_SIGNS);
         private int law;
         private int err;
         private int day;
+        private int posted;
 
         boolean isWriter(int writer) {
             return writer >= 0 && writer < kinds.size;
@@ -618,19 +618,19 @@ public final class ToWhoNeeds {
             told.takeFrom(other.told);
             wentLetter.takeFrom(other.wentLetter);
             wentTo.takeFrom(other.wentTo);
-            row.takeFrom(other.row);
-            text.takeFrom(other.text);
             law = other.law;
             err = other.err;
             day = other.day;
+            posted = other.posted;
         }
     }
 
-    /** Reads the letters that came: first their shape, then, into a draft, what they say. */
+    /** Holds the letters that came and reads them: first their shape, then, into a draft, what they say. */
     private static final class Reader {
         private static final int SHAPE_FAULT = -1000;
         private static final int SENSE_FAULT = -2000;
 
+        private final Numbers text = new Numbers(MOST_SIGNS);
         private final State draft = new State();
         private final int[] numbers = new int[GOODS + 1];
         private int at;
@@ -651,7 +651,7 @@ public final class ToWhoNeeds {
         private boolean isShaped() {
             at = 0;
             boolean right = scanStatement();
-            for (int i = 0; i < MOST_SIGNS && right && at < draft.text.size; i++) {
+            for (int i = 0; i < MOST_SIGNS && right && at < text.size; i++) {
                 right = scanStatement();
             }
             return right;
@@ -660,9 +660,9 @@ public final class ToWhoNeeds {
         private int enterAll() {
             at = 0;
             int statements = 0;
-            while (statements < MOST_SIGNS && at < draft.text.size) {
+            while (statements < MOST_SIGNS && at < text.size) {
                 int start = at;
-                int first = draft.text.get(at);
+                int first = text.get(at);
                 if (!scanStatement() || !enter(first)) {
                     return SENSE_FAULT - start;
                 }
@@ -720,7 +720,7 @@ public final class ToWhoNeeds {
         }
 
         private boolean scanDigit(int slot) {
-            int sign = draft.text.get(at);
+            int sign = text.get(at);
             if (sign < '0' || sign > '9' || slot < 0 || slot >= numbers.length) {
                 return false;
             }
@@ -730,7 +730,7 @@ public final class ToWhoNeeds {
         }
 
         private boolean pass(char sign) {
-            if (draft.text.get(at) != sign) {
+            if (text.get(at) != sign) {
                 return false;
             }
             at++;
@@ -1007,14 +1007,17 @@ public final class ToWhoNeeds {
             return least;
         }
 
-        /** Takes the first n digits of a number as the line; false if they are no line of so many. */
+        /**
+         * Takes the first n digits of a number as the line; false if they are no line of so many.
+         * Of a number below 0 the digits are below 0 too, or 0, which alone there can be.
+         */
         boolean takeLine(int n, int number, int told) {
             line.clear();
             int rest = number;
             int taken = 0;
             for (int i = 0; i < n; i++) {
                 int digit = rest % 10;
-                if (rest < 0 || digit >= told || (taken >> digit & 1) == 1) {
+                if (digit < 0 || digit >= told || (taken >> digit & 1) == 1) {
                     return false;
                 }
                 taken |= 1 << digit;
@@ -1284,16 +1287,16 @@ public final class ToWhoNeeds {
         }
 
         /** The first told LETTER that does not GO as the ROW says. */
-        int firstNotSo(State state, Law law) {
-            thought.takeFrom(state.people);
-            for (int i = 0; i < state.told.size; i++) {
-                int first = law.deliver(thought, state.told.get(i));
+        int firstNotSo(People people, Law law, Numbers told, Numbers row) {
+            thought.takeFrom(people);
+            for (int i = 0; i < told.size; i++) {
+                int first = law.deliver(thought, told.get(i));
                 // A ROW that is too short has -1 there, to which no LETTER GOES.
-                if (state.row.get(i) != (first == NONE ? 9 : first)) {
+                if (row.get(i) != (first == NONE ? 9 : first)) {
                     return i;
                 }
             }
-            return state.row.size > state.told.size ? state.told.size : NONE;
+            return row.size > told.size ? told.size : NONE;
         }
     }
 }

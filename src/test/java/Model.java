@@ -21,7 +21,7 @@ public final class Model {
     private record Going(int letter, int person) { }
 
     private record Image(List<int[]> needs, List<Integer> growths, List<Writer> writers, int law, int err,
-        List<Integer> told, List<Going> goings, List<Integer> row, String text, int day) { }
+        List<Integer> told, List<Going> goings, int day, int posted) { }
 
     private List<int[]> needs = new ArrayList<>();
     private List<Integer> growths = new ArrayList<>();
@@ -410,8 +410,8 @@ public final class Model {
         }
         List<Integer> line = new ArrayList<>();
         for (int i = 0; i < n; i++) {
-            int d = order < 0 ? 99 : (int) (order / Math.pow(10, i)) % 10;
-            if (d >= told.size() || line.contains(d)) {
+            int d = (int) (order / Math.pow(10, i)) % 10;
+            if (d < 0 || d >= told.size() || line.contains(d)) {
                 return no(-1);
             }
             line.add(d);
@@ -713,7 +713,7 @@ public final class Model {
 
     public int image() {
         image = new Image(copy(needs), new ArrayList<>(growths), new ArrayList<>(writers), law, err,
-            new ArrayList<>(told), new ArrayList<>(goings), new ArrayList<>(row), text, day);
+            new ArrayList<>(told), new ArrayList<>(goings), day, posted);
         return day;
     }
 
@@ -728,9 +728,8 @@ public final class Model {
         err = image.err;
         told = new ArrayList<>(image.told);
         goings = new ArrayList<>(image.goings);
-        row = new ArrayList<>(image.row);
-        text = image.text;
         day = image.day;
+        posted = image.posted;
         return day;
     }
 

@@ -184,7 +184,8 @@ public final class ModelTest {
         for (int digit : digits) {
             number = number * 10 + digit;
         }
-        return random.nextInt(12) == 0 ? random.nextInt(54321) : random.nextInt(30) == 0 ? -1 : number;
+        int way = random.nextInt(24);
+        return way < 2 ? random.nextInt(54321) : way == 2 ? -10 * random.nextInt(200) : way == 3 ? -number : number;
     }
 
     private int someLetter() {

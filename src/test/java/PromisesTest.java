@@ -38,6 +38,8 @@ public final class PromisesTest {
         year();
         judge();
         image();
+        imageAndPosted();
+        imageAndNotTold();
         count();
         inMind();
         Check.end();
@@ -464,7 +466,14 @@ public final class PromisesTest {
         due(x.met(2, 30), -1);
         due(x.met(2, 0), -1);
         due(x.met(2, 11), -1);
+        // Below 0 a number's digits name none, but for 0.
         due(x.met(1, -1), -1);
+        due(x.met(1, -1000), 5);
+        due(x.met(1, -10), 5);
+        due(x.met(2, -10), -1);
+        due(x.met(2, -100), -1);
+        due(x.met(1, Integer.MIN_VALUE), -1);
+        due(x.met(0, Integer.MIN_VALUE), 0);
         due(x.met(-1, 0), -4);
         due(x.met(6, 0), -6);
         due(x.order(0), 4);
@@ -941,8 +950,6 @@ public final class PromisesTest {
         x.err(5);
         x.order(1);
         x.going(1, 0);
-        x.row(4);
-        x.letter('p');
         x.day();
         due(x.image(), 1);
         x.post(5);
@@ -951,8 +958,6 @@ public final class PromisesTest {
         x.err(0);
         x.forget();
         x.going(1, 0);
-        x.row(4);
-        x.parish();
         tell(x, "p9,9,9,9+9;wm1;l1111;");
         due(x.need(-1, 0), -1);
         due(x.on(), 1);
@@ -961,8 +966,6 @@ public final class PromisesTest {
         due(x.count(2), 1);
         due(x.count(3), 1);
         due(x.count(4), 1);
-        due(x.count(5), 1);
-        due(x.count(6), 1);
         due(x.count(11), 1);
         due(x.count(13), 1);
         due(x.need(0, 0), 4);
@@ -975,6 +978,48 @@ public final class PromisesTest {
         due(x.on(), 1);
         due(x.allNeed(), 7);
         due(x.law(3), 3);
+    }
+
+    private static void imageAndPosted() {
+        promise = "36 on, POSTED";
+        ToWhoNeeds x = with("p9,0,0,0+0;wp0;l1000;wm0;");
+        x.post(1);
+        x.post(0);
+        x.image();
+        due(x.count(7), 2);
+        due(x.morning(), 2);
+        x.post(1);
+        due(x.count(7), 5);
+        x.on();
+        due(x.count(7), 2);
+        due(x.need(0, 0), 8);
+        x.post(1);
+        due(x.count(7), 3);
+    }
+
+    /** Letters that came and the ROW are not told yet: ON leaves them. */
+    private static void imageAndNotTold() {
+        promise = "36 on, letters that came, the ROW";
+        ToWhoNeeds x = new ToWhoNeeds();
+        say(x, "p1,2");
+        rows(x, 9, 9);
+        x.image();
+        say(x, ",3,4+5;");
+        x.order(0);
+        due(x.row(9), 3);
+        x.on();
+        due(x.count(2), 0);
+        due(x.count(5), 3);
+        due(x.count(6), 11);
+        due(x.judge(), 0);
+        due(x.parish(), 1);
+        due(x.need(0, 3), 4);
+        // What is gone does not come back.
+        x.on();
+        due(x.count(0), 0);
+        due(x.count(5), 0);
+        due(x.count(6), 0);
+        due(x.parish(), -1000);
     }
 
     private static void count() {
