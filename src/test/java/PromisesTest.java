@@ -1,7 +1,5 @@
 /** Each promise of the document by hand: ordinary inputs, the edges that it names, wrong inputs. */
-public final class PromisesTest {
-    private static String promise = "";
-
+public final class PromisesTest extends ByHand {
     private PromisesTest() { }
 
     public static void main(String[] args) {
@@ -43,35 +41,6 @@ public final class PromisesTest {
         count();
         inMind();
         Check.end();
-    }
-
-    private static void due(long got, long want) {
-        StackTraceElement at = new Throwable().getStackTrace()[1];
-        Check.due(promise + " (line " + at.getLineNumber() + ")", got, want);
-    }
-
-    private static void say(ToWhoNeeds x, String text) {
-        for (char c : text.toCharArray()) {
-            x.letter(c);
-        }
-    }
-
-    /** An object with what these texts tell, each a PARISH. */
-    private static ToWhoNeeds with(String... texts) {
-        ToWhoNeeds x = new ToWhoNeeds();
-        for (String text : texts) {
-            due(tell(x, text) > 0 ? 1 : 0, 1);
-        }
-        return x;
-    }
-
-    private static int tell(ToWhoNeeds x, String text) {
-        say(x, text);
-        return x.parish();
-    }
-
-    private static int fault(String text) {
-        return tell(new ToWhoNeeds(), text);
     }
 
     private static void newObject() {
@@ -142,43 +111,43 @@ public final class PromisesTest {
 
     private static void parishFaults() {
         promise = "3 parish, FAULTS";
-        due(fault(""), -1000);
-        due(fault(";"), -1000);
-        due(fault("P"), -1000);
-        due(fault("p"), -1001);
-        due(fault("p1"), -1002);
-        due(fault("p,"), -1001);
-        due(fault("p12"), -1003);
-        due(fault("p123"), -1003);
-        due(fault("p1,2,3,4"), -1008);
-        due(fault("p1,2,3,4,"), -1008);
-        due(fault("p1,2,3+"), -1006);
-        due(fault("p1,2,3,4+"), -1009);
-        due(fault("p1,2,3,4+5"), -1010);
-        due(fault("p1,2,3,4+55;"), -1010);
-        due(fault("p1,2,3,4+5;;"), -1011);
-        due(fault("p1,2,3,4+5;p"), -1012);
-        due(fault("w"), -1001);
-        due(fault("wx"), -1001);
-        due(fault("wl"), -1001);
-        due(fault("wp"), -1002);
-        due(fault("wp;"), -1002);
-        due(fault("wp00;"), -1003);
-        due(fault("l123;"), -1004);
-        due(fault("l12345;"), -1005);
-        due(fault("l1,2"), -1002);
+        due(told(""), -1000);
+        due(told(";"), -1000);
+        due(told("P"), -1000);
+        due(told("p"), -1001);
+        due(told("p1"), -1002);
+        due(told("p,"), -1001);
+        due(told("p12"), -1003);
+        due(told("p123"), -1003);
+        due(told("p1,2,3,4"), -1008);
+        due(told("p1,2,3,4,"), -1008);
+        due(told("p1,2,3+"), -1006);
+        due(told("p1,2,3,4+"), -1009);
+        due(told("p1,2,3,4+5"), -1010);
+        due(told("p1,2,3,4+55;"), -1010);
+        due(told("p1,2,3,4+5;;"), -1011);
+        due(told("p1,2,3,4+5;p"), -1012);
+        due(told("w"), -1001);
+        due(told("wx"), -1001);
+        due(told("wl"), -1001);
+        due(told("wp"), -1002);
+        due(told("wp;"), -1002);
+        due(told("wp00;"), -1003);
+        due(told("l123;"), -1004);
+        due(told("l12345;"), -1005);
+        due(told("l1,2"), -1002);
         // The first kind anywhere comes ahead of the second.
-        due(fault("p31,0,0,0+0;x"), -1012);
-        due(fault("p31,0,0,0+0;"), -2000);
-        due(fault("p0,0,0,99+0;"), -2000);
-        due(fault("p30,30,30,30+9;p0,0,31,0+0;"), -2015);
-        due(fault("wa0;"), -2000);
-        due(fault("l0000;"), -2000);
-        due(fault("p0,0,0,0+0;l0000;"), -2011);
-        due(fault("p0,0,0,0+0;wa0;l0006;"), -2015);
-        due(fault("p0,0,0,0+0;wa0;l9000;"), -2015);
-        due(fault("p0,0,0,0+0;wa1;wa0;l7777;"), -2011);
-        due(fault("p0,0,0,0+0;wa9;"), -2011);
+        due(told("p31,0,0,0+0;x"), -1012);
+        due(told("p31,0,0,0+0;"), -2000);
+        due(told("p0,0,0,99+0;"), -2000);
+        due(told("p30,30,30,30+9;p0,0,31,0+0;"), -2015);
+        due(told("wa0;"), -2000);
+        due(told("l0000;"), -2000);
+        due(told("p0,0,0,0+0;l0000;"), -2011);
+        due(told("p0,0,0,0+0;wa0;l0006;"), -2015);
+        due(told("p0,0,0,0+0;wa0;l9000;"), -2015);
+        due(told("p0,0,0,0+0;wa1;wa0;l7777;"), -2011);
+        due(told("p0,0,0,0+0;wa9;"), -2011);
     }
 
     private static void parishLimits() {
@@ -934,12 +903,6 @@ public final class PromisesTest {
         due(x.row(-1), -4);
         due(x.count(5), 8);
         due(x.judge(), 2);
-    }
-
-    private static void rows(ToWhoNeeds x, int... persons) {
-        for (int i = 0; i < persons.length; i++) {
-            due(x.row(persons[i]), i + 1);
-        }
     }
 
     private static void image() {
