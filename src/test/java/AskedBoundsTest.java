@@ -744,6 +744,8 @@ public final class AskedBoundsTest extends ByHand {
         due(with("p1,0,0,0+0;p0,1,0,0+0;wm0;").writes(0), 1);
         due(with("p0,1,0,0+0;p1,0,0,0+0;wm0;").writes(0), 1);
         due(with("p0,0,0,1+0;p0,1,0,0+0;wm0;").writes(0), 10);
+        // 221 meets 3 as well (111 goes to the second, who has 1 of it), but costs more than 2100.
+        due(with("p1,1,1,0+0;p5,0,0,0+0;p0,0,1,2+0;wm0;").writes(0), 2100);
         // By READ ON both have their own of 11.
         ToWhoNeeds x = with("p1,0,0,0+0;p0,1,0,0+0;wm0;");
         x.law(4);
@@ -759,6 +761,8 @@ public final class AskedBoundsTest extends ByHand {
         due(with("p2,0,0,0+0;p2,0,0,0+0;wh1;l5555;").writes(0), 1);
         due(with("p3,0,0,0+0;p2,0,0,0+0;wh1;l5555;").writes(0), 2);
         due(with("p4,0,0,0+0;p2,0,0,0+0;wh1;l5555;").writes(0), 5555);
+        // None now; behind 11, which the third gets, for 2 (11): any will do.
+        due(with("p5,0,0,0+0;p0,5,0,0+0;p4,4,0,0+0;p4,4,0,0+0;wh3;l5555;").writes(0), 11);
         // Reached for 1, which nothing makes less: as AIM.
         due(with("p2,0,0,0+0;p0,4,0,0+0;wh1;l5555;").writes(0), 10);
         // Behind 2 he were reached for 2 (11), which is dearer: as AIM.
